@@ -84,6 +84,53 @@ final class Check {
         return line.order(lot);
     }
 
+    /** What the calls that change nothing answer, but for the predictions, the buffer and the latest load. */
+    static String look(CardLine line) {
+        StringBuilder seen = new StringBuilder();
+        for (int what = 0; what <= 8; what++) {
+            seen.append(line.count(what)).append(' ');
+        }
+        for (int what = 0; what <= 4; what++) {
+            seen.append(line.setting(what)).append(' ').append(line.total(what)).append(' ');
+        }
+        for (int station = 0; station < line.count(0); station++) {
+            seen.append("\nstation");
+            for (int what = 0; what <= 12; what++) {
+                seen.append(' ').append(line.station(station, what));
+            }
+            seen.append(' ').append(line.busyPart(station)).append(' ').append(line.failIn(station));
+            seen.append(' ').append(line.restIn(station));
+        }
+        for (int lot = 0; lot < line.count(1); lot++) {
+            seen.append("\nlot");
+            for (int what = 0; what <= 6; what++) {
+                seen.append(' ').append(line.lot(lot, what));
+            }
+            for (int place = 0; place <= line.lot(lot, 1); place++) {
+                seen.append(' ').append(line.cardOf(lot, place));
+            }
+            for (int day = 0; day <= 10; day++) {
+                seen.append(' ').append(line.day(day, lot, 0)).append('/').append(line.day(day, lot, 1));
+            }
+            seen.append(' ').append(line.today(lot, 0)).append('/').append(line.today(lot, 1));
+        }
+        for (int card = 0; card < line.count(2); card++) {
+            seen.append("\ncard");
+            for (int what = 0; what <= 7; what++) {
+                seen.append(' ').append(line.card(card, what));
+            }
+            for (int place = 0; place <= line.card(card, 2); place++) {
+                seen.append(' ').append(line.letter(card, place));
+            }
+            seen.append(' ').append(line.leavesIn(card));
+        }
+        seen.append('\n');
+        for (int index = 0; index <= 30; index++) {
+            seen.append(line.trayAt(index)).append('/').append(line.leftAt(index)).append(' ');
+        }
+        return seen.append(line.nextFed()).append(' ').append(line.now()).toString();
+    }
+
     /** A new object with a description that has no error. */
     static CardLine line(String text) {
         CardLine line = new CardLine();
