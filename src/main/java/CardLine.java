@@ -1480,7 +1480,6 @@ public final class CardLine {
         private void readText() {
             letterCount = 0;
             depth = 0;
-            rowStart[0] = 0;
             int from = skipSpaces();
             // Each piece, or each half of a group, has at least one byte.
             for (int piece = from; piece < length && isFine() && at < length && text[at] != ';'; piece++) {

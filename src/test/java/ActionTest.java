@@ -19,6 +19,7 @@ public final class ActionTest {
         promise37();
         promise38();
         whatChangesNothing();
+        fullHouse();
         Check.end("ActionTest");
     }
 
@@ -334,6 +335,41 @@ public final class ActionTest {
         Check.dueArgument("runToLeave(0)", () -> line.runToLeave(0));
         Check.dueArgument("runToLeave(2001)", () -> line.runToLeave(2001));
         Check.dueArgument("runToLeave(-5)", () -> line.runToLeave(-5));
+    }
+
+    /** With as many stations, lots and cards as there can be no row ends too early. */
+    private static void fullHouse() {
+        StringBuilder text = new StringBuilder("line 9 99 20 9");
+        for (int number = 0; number < 6; number++) {
+            text.append(";chip 1 0;lot ").append(number);
+        }
+        for (int card = 0; card < 30; card++) {
+            text.append(";card5a");
+        }
+        CardLine line = Check.line(text.toString());
+        for (int station = 0; station < 6; station++) {
+            Check.due("stop(" + station + ", true)", line.stop(station, true), station + 1);
+        }
+        for (int station = 0; station < 6; station++) {
+            Check.due("stop(" + station + ", false)", line.stop(station, false), 5 - station);
+        }
+        for (int card = 0; card < 29; card++) {
+            Check.due("rush(" + card + ")", line.rush(card), card + 1);
+        }
+        Check.due("nextFed()", line.nextFed(), 0);
+        Check.due("swap(0, 29)", line.swap(0, 29), 29);
+        Check.due("lotBy(5)", line.lotBy(5), 5);
+        Check.due("lotBy(6)", line.lotBy(6), CardLine.NONE);
+        Check.due("order(5)", Check.order(line, 5, "a"), -101);
+        Check.due("cards that left", line.run(2000), 0);
+        Check.due("cards in the tray", line.count(6), 20);
+        Check.due("blanks", line.count(3), 0);
+        line.refill(999);
+        line.rush(29);
+        Check.due("cards that left then", line.run(2000), 30);
+        Check.due("leftAt(0)", line.leftAt(0), 29);
+        Check.due("leftAt(29)", line.leftAt(29), 0);
+        Check.due("lot(5, 2)", line.lot(5, 2), 30);
     }
 
     private static void whatChangesNothing() {

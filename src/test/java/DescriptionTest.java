@@ -7,6 +7,7 @@ public final class DescriptionTest {
         promise2();
         promise3();
         promise3BeginsAnew();
+        promise3BehindAnother();
         numbersAndSpaces();
         placesOfError1();
         placesOfError2();
@@ -103,7 +104,7 @@ public final class DescriptionTest {
         takes("line 480 0 1 1", 0);
         takes("line 1 0 1 1", 0);
         takes("line 2000 999 20 9", 0);
-        takes("line 5 1 1 1;chip 99 0;stripe 1 1;print 7 010101010101;wheel 9 1;wheel 1 0;chip 1 0", 6);
+        takes("line 5 1 1 1;chip 99 0;rest 0 99 99;stripe 1 1;print 7 010101010101;wheel 9 1;wheel 1 0;chip 1 0", 6);
         CardLine line = Check.line("line 7 8 9 6;lot 9;wheel 3 01;rest 0 4 5;lot 0;print 12 1;card 1 ba;rest 0 6 99"
             + ";card 0 z;card 1 q;stripe 1 0");
         int[] settings = {7, 9, 6, 8, 0};
@@ -167,6 +168,62 @@ public final class DescriptionTest {
         Check.due("the other snapshot", line.restoreSnapshot(0), CardLine.NONE);
     }
 
+    /** Of what a full and busy line was nothing may be left in the next one. */
+    private static void promise3BehindAnother() {
+        CardLine busy = busyLine();
+        busy.run(220);
+        looksBusy(busy);
+        behind(busy);
+        for (int ticks = 200; ticks < 240; ticks++) {
+            CardLine line = busyLine();
+            line.setTray(ticks % 2 == 0 ? 1 : 20);
+            line.run(ticks);
+            behind(line);
+        }
+        CardLine rushed = busyLine();
+        for (int card = 0; card < 5; card++) {
+            rushed.rush(card);
+        }
+        rushed.stop(0, true);
+        behind(rushed);
+    }
+
+    private static CardLine busyLine() {
+        StringBuilder full = new StringBuilder("line 3 99 1 3");
+        for (int station = 0; station < 6; station++) {
+            full.append(station == 0 ? ";wheel 9 001" : ";chip 1 00100").append(";rest ").append(station).append(" 3 2;lot 3");
+        }
+        for (int card = 0; card < 30; card++) {
+            full.append(";card").append(card % 2).append("kc");
+        }
+        CardLine line = Check.line(full.toString());
+        line.swap(0, 10);
+        line.swap(1, 11);
+        line.refill(9);
+        return line;
+    }
+
+    private static void looksBusy(CardLine line) {
+        for (int what = 1; what <= 3; what++) {
+            Check.due("total(" + what + ") of the busy line", line.total(what) > 2 ? 1 : 0, 1);
+        }
+        for (int station = 0; station < 3; station++) {
+            Check.due("fails of station " + station, line.station(station, 5) > 0 ? 1 : 0, 1);
+        }
+    }
+
+    private static void behind(CardLine line) {
+        String next = "line 4 99 2 3;wheel 2 01;rest 0 2 1;chip 2 0;rest 1 3 2;chip 3 0;lot 1;lot 2;card 0 ab;card 1 c;card 0 d;card 1 e";
+        // A prediction leaves its copy of the busy line where the description is read then.
+        line.leftIn(1);
+        Check.due("load() of another one", Check.load(line, next), 3);
+        CardLine fresh = Check.line(next);
+        Check.dueText("at first", Check.look(line), Check.look(fresh));
+        line.run(13);
+        fresh.run(13);
+        Check.dueText("behind 13 ticks", Check.look(line), Check.look(fresh));
+    }
+
     private static void numbersAndSpaces() {
         takes("line480 0 1 1", 0);
         takes("  line  480  0  1  1  ;  chip5 0  ;lot3;card0a;card 0b 2 ( c 3(d) ) e ", 1);
@@ -188,6 +245,8 @@ public final class DescriptionTest {
         refuses("chip 5 0", 0, 1, 0);
         refuses(" lines 5 0 1 1", 1, 1, 0);
         refuses("lin", 0, 1, 0);
+        refuses("xine 5 0 1 1", 0, 1, 0);
+        refuses("linx 5 0 1 1", 0, 1, 0);
         refuses("Line 5 0 1 1", 0, 1, 0);
         refuses("5", 0, 1, 0);
         refuses("line", 4, 1, 0);
@@ -284,6 +343,10 @@ public final class DescriptionTest {
         refuses(card + "2(2(2(2", 32, 3, 2);
         refuses(card + "2(2(2(a 9", 34, 3, 2);
         refuses(card + "2(2(2(a) 2(b) 2(2(c", 42, 3, 2);
+        String row = "abcdefghijklmnop2(";
+        refuses(card + row + row + row + "abcdefghijklmnopq", 26 + 3 * 18 + 16, 3, 2);
+        refuses(card + row + row + row + "abcdefghijklmnop)", 26 + 3 * 18 + 16, 3, 2);
+        refuses(card + row + row + row + "abcdefghijklmnop2(a", 26 + 3 * 18 + 16, 3, 2);
         takes(card + "abcdefghijklmnop", 0);
         takes(card + "2(abcdefgh)", 0);
         takes(card + "2(2(2(a)2(b)))", 0);

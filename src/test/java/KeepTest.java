@@ -7,6 +7,8 @@ public final class KeepTest {
         promise49And50();
         promise51();
         undoOfEach();
+        undoOfBusyTicks();
+        snapshotOfAnotherWay();
         promise52And53();
         whatSnapshotsLeave();
         Check.end("KeepTest");
@@ -106,6 +108,52 @@ public final class KeepTest {
         undone("setTray()", line -> line.setTray(9));
         undone("run()", line -> line.run(9));
         undone("runToLeave()", line -> line.runToLeave(9));
+    }
+
+    private static void undoOfBusyTicks() {
+        CardLine line = Check.line("line 4 99 1 2;chip 1 010;wheel 9 0;rest 0 3 1;lot 5;lot 5;card 0 a;card 1 x;card 0 b;"
+            + "card 1 k;card 0 c;card 0 d;card 1 q;card 1 r;card 0 e");
+        line.swap(0, 4);
+        line.swap(1, 6);
+        String[] looks = new String[7];
+        for (int action = 0; action < looks.length; action++) {
+            looks[action] = Check.look(line);
+            line.run(5);
+            if (action == 2) {
+                line.saveSnapshot(0);
+            }
+        }
+        Check.due("cards were scrapped", line.total(2) > 3 ? 1 : 0, 1);
+        Check.due("cards failed", line.total(1) > 3 ? 1 : 0, 1);
+        Check.due("cards left", line.count(7) > 3 ? 1 : 0, 1);
+        for (int action = looks.length - 1; action >= 0; action--) {
+            line.undo();
+            Check.dueText("the line behind undo() to run no. " + action, Check.look(line), looks[action]);
+        }
+        line.run(2000);
+        line.restoreSnapshot(0);
+        Check.dueText("the snapshot of a busy line", Check.look(line), looks[3]);
+    }
+
+    /** Behind a snapshot things may come otherwise, and nothing of that may be left behind it. */
+    private static void snapshotOfAnotherWay() {
+        CardLine line = Check.line("line 3 99 9 2;chip 1 0001;lot 5;lot 5;card 0 a;card 1 x;card 0 b;card 1 k;card 0 c");
+        line.saveSnapshot(0);
+        line.run(11);
+        String oneWay = Check.look(line);
+        line.saveSnapshot(1);
+        line.restoreSnapshot(0);
+        line.rush(3);
+        line.swap(1, 3);
+        line.swap(0, 2);
+        line.stop(0, true);
+        line.run(4);
+        line.stop(0, false);
+        line.run(25);
+        Check.due("what left first", line.leftAt(0), 3);
+        Check.due("all have left", line.count(7), 5);
+        line.restoreSnapshot(1);
+        Check.dueText("the snapshot of the one way", Check.look(line), oneWay);
     }
 
     private static void promise52And53() {

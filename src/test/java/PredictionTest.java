@@ -34,6 +34,13 @@ public final class PredictionTest {
         tray.run(6);
         Check.due("leavesIn(0) in the tray", tray.leavesIn(0), 4);
         Check.due("leavesIn(1) ahead of it", tray.leavesIn(1), 4);
+        CardLine freed = Check.line("line 99 1 1 1;chip 1 0;lot 0;card 0 a;card 0 b");
+        freed.swap(0, 1);
+        freed.run(5);
+        Check.due("leavesIn(0) held up for ever", freed.leavesIn(0), CardLine.NONE);
+        freed.giveUp(1);
+        Check.due("leavesIn(0) held up no more", freed.leavesIn(0), 1);
+        Check.due("allIn() then", freed.allIn(), 1);
         Check.dueIndex("leavesIn(-1)", () -> line.leavesIn(-1));
         Check.dueIndex("leavesIn(3)", () -> line.leavesIn(3));
     }
@@ -228,6 +235,11 @@ public final class PredictionTest {
         Check.due("lotIn(1) behind 2000", line.lotIn(1), 2000);
         Check.due("allIn() behind 2000", line.allIn(), 2000);
         Check.due("bestTray() behind 2000", line.bestTray(), 1);
+        CardLine two = Check.line(slowText("chip 99 0") + ";card0a");
+        two.run(80);
+        Check.due("lotIn(0) behind 2099", two.lotIn(0), CardLine.NONE);
+        Check.due("lotIn(1) of two behind 2000", two.lotIn(1), 2000);
+        lotOrder(two, "with 2000 and NONE", 1, 0);
         CardLine rests = Check.line(slowText("chip 99 0;rest 0 21 1"));
         rests.run(79);
         Check.due("restIn(0) behind 2001", rests.restIn(0), CardLine.NONE);

@@ -353,6 +353,10 @@ public final class TickTest {
         line.giveUp(1);
         Check.due("bottleneck() without cards", line.bottleneck(), 0);
         Check.due("bottleneck() without stations", new CardLine().bottleneck(), CardLine.NONE);
+        CardLine first = Check.line("line 99 9 1 1;chip 13 0;wheel 1 0;lot 0;card 0 n;card 0 a");
+        Check.due("bottleneck() with the first card", first.bottleneck(), 0);
+        first.setPace(0, 7);
+        Check.due("bottleneck() with its steps", first.bottleneck(), 1);
         CardLine turned = Check.line("line 99 9 1 1;wheel 1 0;chip 9 0;lot 0;card 0 k;card 0 k");
         Check.due("bottleneck() from a", turned.bottleneck(), 0);
         turned.run(1);
