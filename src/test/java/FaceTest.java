@@ -97,7 +97,7 @@ public final class FaceTest {
         String code = source.replaceAll("(?s)/\\*.*?\\*/", "").replaceAll("//[^\n]*", "");
         String[] ruledOut = {"->", "::", "\\bcatch\\b", "\\btry\\b", "\\bfinally\\b", "\\bsynchronized\\b", "\\bassert\\b",
             "static \\{", "\\bpackage\\b", "\\bequals\\(", "\\bhashCode\\b", "\\btoString\\b", "\\bSystem\\.(?!arraycopy\\()",
-            "import (?!java\\.util\\.Arrays;)", "Math\\.(?!min\\()", "Exact\\b", "\\binstanceof\\b", "\\bvar\\b",
+            "import (?!java\\.util\\.(Arrays|ArrayList|List);)", "Math\\.(?!(min|max|abs|floorDiv|floorMod)\\()", "Exact\\b", "\\binstanceof\\b", "\\bvar\\b",
             "throw new (?!IndexOutOfBoundsException\\(\"|IllegalArgumentException\\(\")", "\\bprotected\\b", "\"\\s*\\+|\\+\\s*\""};
         for (String pattern : ruledOut) {
             Matcher found = Pattern.compile(pattern).matcher(code);
