@@ -27,6 +27,12 @@ public final class LimitTest {
         lastTickOfLots();
         runToLeaveAtItsLimit();
         nothingAtAll();
+        triesOfThoseThatWait();
+        failsAtEachStation();
+        goingOnIntoAnyStation();
+        bottleneckOfAllStates();
+        actionsThatChangeNothing();
+        snapshotsBehindLoad();
         stationsAsFarAsTheyGo();
         Check.end("LimitTest");
     }
@@ -413,6 +419,160 @@ public final class LimitTest {
             line.run(9);
             Check.due("on the line behind a stopped station", line.count(5), count);
             Check.due("none leaves", line.count(7), 1);
+        }
+    }
+
+    /** TRIES holds for cards that fail from then on: those that wait stay, whatever they failed. */
+    private static void triesOfThoseThatWait() {
+        for (int tries = 1; tries <= 4; tries++) {
+            CardLine line = cards("line 99 3 1 9;chip 1 1;lot 0", 2);
+            line.run(9);
+            Check.due("fails of the card that waits", line.card(0, 5), 3);
+            Check.due("setTries(" + tries + ")", line.setTries(tries), 9);
+            Check.due("its state then", line.card(0, 3), 0);
+            line.run(5);
+            Check.due("its state without a blank", line.card(0, 3), 0);
+            line.refill(1);
+            line.run(2);
+            Check.due("its state behind another fail with TRIES " + tries, line.card(0, 3), 4);
+        }
+    }
+
+    /** Wherever and in whatever kind of station it fails, it is given up with the last try. */
+    private static void failsAtEachStation() {
+        String[] kinds = {"chip", "stripe", "print", "wheel"};
+        for (int kind = 0; kind < kinds.length; kind++) {
+            for (int place = 0; place < 3; place++) {
+                StringBuilder text = new StringBuilder("line 99 99 1 2");
+                for (int station = 0; station < 3; station++) {
+                    text.append(";").append(station == place ? kinds[kind] + " 1 1" : "chip 1 0");
+                }
+                CardLine line = cards(text + ";lot 0", 1);
+                int once = place + 2;
+                String of = " at " + kinds[kind] + " as station " + place;
+                Check.due("failIn()" + of, line.failIn(place), once);
+                line.run(once);
+                Check.due("fails" + of, line.card(0, 5), 1);
+                Check.due("fed again" + of, line.station(0, 2), 0);
+                line.run(once - 1);
+                Check.due("given up" + of, line.card(0, 3), 4);
+                Check.due("in no station" + of, line.card(0, 4), CardLine.NONE);
+                Check.due("fails of the station" + of, line.station(place, 5), 2);
+                Check.due("none went on" + of, line.station(place, 6), 0);
+                Check.due("on the line" + of, line.count(5), 0);
+            }
+        }
+    }
+
+    /** A ready card goes on into an empty station, also if that is stopped or rests, and needs its ticks there. */
+    private static void goingOnIntoAnyStation() {
+        CardLine line = cards("line 99 99 1 1;chip 1 0;chip 1 0;chip 1 0;rest 2 1 9;lot 0", 4);
+        line.stop(1, true);
+        line.run(2);
+        Check.due("into a stopped station", line.station(1, 2), 0);
+        Check.due("its ticks there", line.station(1, 3), 1);
+        line.run(3);
+        Check.due("it stays there", line.station(1, 3), 1);
+        Check.due("the next one is ready behind it", line.station(0, 3), 0);
+        Check.due("ticks with a ready card", line.total(4), 3);
+        line.stop(1, false);
+        line.run(2);
+        Check.due("the first one has left", line.count(7), 1);
+        Check.due("the last station rests", line.station(2, 11), 9);
+        Check.due("into a resting station", line.station(2, 2), 1);
+        Check.due("its ticks there", line.station(2, 3), 1);
+        line.run(9);
+        Check.due("the rest is over", line.station(2, 11), 0);
+        Check.due("its ticks behind it", line.station(2, 3), 1);
+        Check.due("it leaves then", line.run(1), 2);
+    }
+
+    /** Cards count that wait, are on the line or in the tray; those that left or were given up do not. */
+    private static void bottleneckOfAllStates() {
+        String[] letters = {"a", "b", "c", "d", "e"};
+        for (int state = 0; state <= 4; state++) {
+            CardLine line = Check.line("line 99 2 1 1;chip 1 0;wheel 1 0;lot 0;card 0 " + "n" + ";card 0 " + letters[state]);
+            if (state == 1) {
+                line.rush(1);
+                line.run(1);
+            } else if (state == 2) {
+                line.rush(1);
+                line.stop(0, false);
+                line.run(2 + line.ticksFor(1, 1));
+            } else if (state == 3) {
+                line.giveUp(0);
+                line.run(9);
+            } else if (state == 4) {
+                line.giveUp(1);
+            }
+            Check.due("the card's state", line.card(1, 3), state);
+            int[] ticks = new int[2];
+            for (int station = 0; station < 2; station++) {
+                for (int card = 0; card < 2; card++) {
+                    ticks[station] += line.card(card, 3) < 3 ? line.ticksFor(station, card) : 0;
+                }
+            }
+            turnsOver(line, ticks[1], state);
+        }
+    }
+
+    /** With TIME just below, at and above the wheel's ticks the bottleneck is the wheel, the first one and the first one. */
+    private static void turnsOver(CardLine line, int wheelTicks, int state) {
+        int counted = (line.card(0, 3) < 3 ? 1 : 0) + (line.card(1, 3) < 3 ? 1 : 0);
+        for (int time = 1; time <= 99; time++) {
+            line.setPace(0, time);
+            Check.due("bottleneck() with TIME " + time + " and a card of state " + state, line.bottleneck(),
+                counted * time >= wheelTicks ? 0 : 1);
+        }
+    }
+
+    /** An action counts also if it changes nothing, and is taken back as any other. */
+    private static void actionsThatChangeNothing() {
+        CardLine line = Check.line("line 99 9 3 4;chip 5 0;wheel 6 0;rest 1 7 8;lot 2;card 0 a");
+        line.rush(0);
+        Check.due("the first action", line.count(9), 1);
+        line.rush(0);
+        Check.due("rush() of a rushed card", line.count(9), 2);
+        line.setRank(0, 2);
+        Check.due("setRank() to what it is", line.count(9), 3);
+        line.setPace(1, 6);
+        Check.due("setPace() to what it is", line.count(9), 4);
+        line.stop(1, false);
+        Check.due("stop() of what is not stopped", line.count(9), 5);
+        line.setRest(1, 7, 8);
+        Check.due("setRest() to what it is", line.count(9), 6);
+        line.setTries(4);
+        Check.due("setTries() to what it is", line.count(9), 7);
+        line.setTray(3);
+        Check.due("setTray() to what it is", line.count(9), 8);
+        for (int left = 7; left >= 0; left--) {
+            Check.due("undo()", line.undo(), left);
+        }
+        line.setRest(0, 0, 5);
+        line.setRest(0, 0, 6);
+        Check.due("setRest() of none twice", line.count(9), 2);
+        line.giveUp(0);
+        Check.due("runToLeave() in vain", line.runToLeave(1), CardLine.NONE);
+        Check.due("it counts", line.count(9), 4);
+        line.undo();
+        Check.due("its tick is taken back", line.now(), 0);
+    }
+
+    private static void snapshotsBehindLoad() {
+        CardLine line = new CardLine();
+        for (int slot = 0; slot <= 1; slot++) {
+            Check.load(line, "line " + (7 + slot) + " 1 1 1;chip 1 0");
+            line.run(3 + slot);
+            line.saveSnapshot(slot);
+        }
+        for (int time = 0; time < 2; time++) {
+            Check.load(line, "line 5 5 5 5");
+            Check.load(line, "line 5 5 5 x");
+            for (int slot = 0; slot <= 1; slot++) {
+                Check.due("restoreSnapshot(" + slot + ") behind load()", line.restoreSnapshot(slot), 3 + slot);
+                Check.due("its DAY", line.setting(0), 7 + slot);
+                Check.due("its stations", line.count(0), 1);
+            }
         }
     }
 }

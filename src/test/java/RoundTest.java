@@ -205,18 +205,22 @@ public final class RoundTest {
 
     /** All ten days, wherever they stand, come back with undo() and with a snapshot. */
     private static void keptDaysComeBack() {
-        for (int ticks = 10; ticks <= 21; ticks++) {
-            CardLine line = Check.line("line 1 99 1 9;chip 1 01;lot 5;lot 1;card 0 a;card 1 b;card 1 c;card 0 d;card 1 e;card 0 e"
-                + ";card 0 a;card 1 b;card 1 c;card 0 d;card 1 e;card 0 e");
-            line.run(ticks);
-            String before = Check.look(line);
-            line.saveSnapshot(1);
-            line.run(11);
-            line.undo();
-            Check.dueText("the days of " + ticks + " ticks behind undo()", Check.look(line), before);
-            line.run(11);
-            line.restoreSnapshot(1);
-            Check.dueText("the days of " + ticks + " ticks from a snapshot", Check.look(line), before);
+        for (String script : new String[] {"01", "0", "1"}) {
+            for (int ticks = 10; ticks <= 21; ticks++) {
+                CardLine line = Check.line("line 1 99 1 9;chip 1 " + script + ";lot 5;lot 1;card 0 a;card 1 b;card 1 c;card 0 d"
+                    + ";card 1 e;card 0 e;card 0 a;card 1 b;card 1 c;card 0 d;card 1 e;card 0 e");
+                line.run(ticks);
+                String before = Check.look(line);
+                line.saveSnapshot(1);
+                line.run(11);
+                line.undo();
+                Check.dueText("the days of " + ticks + " ticks behind undo()", Check.look(line), before);
+                line.run(11);
+                line.stop(0, true);
+                line.run(11);
+                line.restoreSnapshot(1);
+                Check.dueText("the days of " + ticks + " ticks from a snapshot", Check.look(line), before);
+            }
         }
     }
 
