@@ -33,6 +33,7 @@ public final class LimitTest {
         bottleneckOfAllStates();
         actionsThatChangeNothing();
         snapshotsBehindLoad();
+        allThatWait();
         stationsAsFarAsTheyGo();
         Check.end("LimitTest");
     }
@@ -574,5 +575,30 @@ public final class LimitTest {
                 Check.due("its stations", line.count(0), 1);
             }
         }
+    }
+
+    /** All 30 cards are rushed, then given up one by one; the lot is finished with the last one. */
+    private static void allThatWait() {
+        CardLine line = cards("line 99 99 1 1;chip 1 0;lot 0", 30);
+        for (int card = 29; card >= 0; card--) {
+            Check.due("rush(" + card + ")", line.rush(card), 30 - card);
+            Check.due("nextFed() then", line.nextFed(), card);
+        }
+        for (int card = 0; card < 30; card++) {
+            Check.due("the next card of the lot", line.lot(0, 6), card);
+            Check.due("lotIn(0) ahead of giveUp(" + card + ")", line.lotIn(0), 31 - card);
+            Check.due("giveUp(" + card + ")", line.giveUp(card), 29 - card);
+            Check.due("given up", line.lot(0, 3), card + 1);
+            Check.due("given up again", line.giveUp(card), CardLine.WRONG_STATE);
+        }
+        Check.due("the next card in the end", line.lot(0, 6), CardLine.NONE);
+        Check.due("nextFed() in the end", line.nextFed(), CardLine.NONE);
+        Check.due("lotIn(0) in the end", line.lotIn(0), 0);
+        Check.due("allIn() in the end", line.allIn(), 0);
+        Check.due("bestRank(0) in the end", line.bestRank(0), 0);
+        Check.due("bestTray() in the end", line.bestTray(), 1);
+        Check.due("cards that waited", line.undo(), 7);
+        Check.due("the last one waits again", line.nextFed(), 29);
+        Check.due("rush(29) of the only rushed one", line.rush(29), 1);
     }
 }
